@@ -1248,9 +1248,12 @@ public final class GiftOffice {
         private final int[] askings = new int[MOST_ASKINGS];
         private final int[] sums = new int[MOST_ASKINGS];
         private final int[] worths = new int[MOST_ASKINGS];
+        /** What those from each one on come to together. */
+        private final int[] restSums = new int[MOST_ASKINGS + 1];
+        private final int[] restWorths = new int[MOST_ASKINGS + 1];
+        private final int[] restBits = new int[MOST_ASKINGS + 1];
         private int size;
         private int left;
-        private int worthOfAll;
         private int bestWorth;
         private int bestSum;
         private int bestBits;
@@ -1258,7 +1261,6 @@ public final class GiftOffice {
         void start(int left) {
             this.left = left;
             size = 0;
-            worthOfAll = 0;
             bestWorth = 0;
             bestSum = 0;
             bestBits = 0;
@@ -1270,30 +1272,40 @@ public final class GiftOffice {
                 askings[size] = asking;
                 sums[size] = sum;
                 worths[size] = worth;
-                worthOfAll += worth;
                 size++;
             }
         }
 
         int bestSet() {
-            search(this, 0, 0, worthOfAll, 0, 0);
+            restSums[size] = 0;
+            restWorths[size] = 0;
+            restBits[size] = 0;
+            for (int i = size - 1; i >= 0; i--) {
+                restSums[i] = restSums[i + 1] + sums[i];
+                restWorths[i] = restWorths[i + 1] + worths[i];
+                restBits[i] = restBits[i + 1] | 1 << askings[i];
+            }
+            search(this, 0, 0, 0, 0);
             return bestBits;
         }
 
-        /** Decides on each from the i-th on; open is the WORTH of those not yet decided on. */
-        private static void search(Choice of, int i, int worth, int open, int sum, int bits) {
-            if (worth + open < of.bestWorth) {
+        /** Decides on each from the i-th on, those ahead of it being decided on. */
+        private static void search(Choice of, int i, int worth, int sum, int bits) {
+            if (i < 0 || i > of.size) {
                 return;
             }
-            if (i < 0 || i >= of.size || i >= MOST_ASKINGS) {
-                of.keepBetter(worth, sum, bits);
+            if (sum + of.restSums[i] <= of.left) {
+                of.keepBetter(worth + of.restWorths[i], sum + of.restSums[i], bits | of.restBits[i]);
                 return;
             }
-            int rest = open - of.worths[i];
+            // not all of the rest can be taken, so that what comes is less than it
+            if (worth + of.restWorths[i] <= of.bestWorth || i == of.size) {
+                return;
+            }
             if (sum + of.sums[i] <= of.left) {
-                search(of, i + 1, worth + of.worths[i], rest, sum + of.sums[i], bits | 1 << of.askings[i]);
+                search(of, i + 1, worth + of.worths[i], sum + of.sums[i], bits | 1 << of.askings[i]);
             }
-            search(of, i + 1, worth, rest, sum, bits);
+            search(of, i + 1, worth, sum, bits);
         }
 
         private void keepBetter(int worth, int sum, int bits) {

@@ -39,6 +39,19 @@ public final class AskingsTest {
         CHECK.due("ask: STATE ahead of FULL", x.ask(0, 0, 0, 0, 5000, 0), -3);
         CHECK.due("ask: BAD ahead of STATE", x.ask(6, 0, 0, 0, 5000, 0), -2);
         CHECK.due("count(2)", x.count(2), 14);
+        afterOthers();
+    }
+
+    /** What was reckoned for another ASKING leaves nothing behind. */
+    private static void afterOthers() {
+        GiftOffice x = new GiftOffice();
+        x.reader(0, 0, 6);
+        x.ask(1, 9, 0, 0, 10, 0);
+        x.deal();
+        x.mark(0, 0, 77);
+        Check.rule(x, "may mark + readers + behind; pass 1; late 0;");
+        CHECK.due("says of the first", x.says(0, 2, 9), 9);
+        CHECK.due("ask: no WORTH, MARKS and behind of another one", x.ask(1, 9, 0, 0, 10, 0), -3);
     }
 
     private static void askingRefused() {
@@ -90,6 +103,16 @@ public final class AskingsTest {
         CHECK.due("sheet: missing, n does not matter", x.sheet(0, -1, 41), 1);
         CHECK.due("cell: missing", x.cell(0, 0, 0), -11);
         CHECK.due("sheet: missing, n does not matter", x.sheet(0, -1, -1), 1);
+        CHECK.due("sheet: of another sort in place of one", x.sheet(3, 1, 6), 1);
+        row(x, 3, 0, 3, 1, 2, 3, 50, 5);
+        CHECK.due("asks", x.asks(3, 1, 0, 1), 1);
+        CHECK.due("sheet: the same again", x.sheet(3, 1, 6), 1);
+        CHECK.due("cell", x.cell(3, 4, 60), 1);
+        CHECK.due("asks", x.asks(3, 1, 0, 1), 1);
+        int[] due = {0, 0, -1, 0, 60, 0};
+        for (int what = 0; what < due.length; what++) {
+            CHECK.due("sheet: all 0, told(1, " + what + ")", x.told(1, what), due[what]);
+        }
         CHECK.due("sheet(3, 2, 0)", x.sheet(3, 2, 0), 1);
         CHECK.due("cell: a row of none", x.cell(3, 0, 0), -12);
         CHECK.due("asks: a row of none", x.asks(3, 2, 0, 0), 0);
@@ -142,6 +165,8 @@ public final class AskingsTest {
         CHECK.due("asks: refused ones are left out", x.asks(2, 1, 1, 5), 3);
         CHECK.due("count(2)", x.count(2), 3);
         CHECK.due("told(0, 4)", x.told(0, 4), 400);
+        CHECK.due("told(0, 3)", x.told(0, 3), 3);
+        CHECK.due("told(2, 3)", x.told(2, 3), 5);
         CHECK.due("told(0, 5)", x.told(0, 5), 500);
         CHECK.due("told(1, 2)", x.told(1, 2), 2);
         CHECK.due("told(2, 4)", x.told(2, 4), 404);

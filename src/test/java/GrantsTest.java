@@ -73,6 +73,16 @@ public final class GrantsTest {
         CHECK.due("fit: has a GRANT, if a STOPPED one", x.fit(0, 0), 0);
         x.bar(1, 1);
         CHECK.due("fit: the MARK does not count", x.fit(1, 1), 0);
+        GiftOffice y = office(100);
+        Check.rule(y, "may 1; pass behind; late 0;");
+        marked(y, 0, 10, 60);
+        CHECK.due("fit: behind is 0", y.fit(0, 0), 0);
+        GiftOffice z = office(100);
+        Check.rule(z, "may 1; pass sum = 10; late 0;");
+        marked(z, 0, 10, 60);
+        marked(z, 0, 11, 60);
+        CHECK.due("fit: by its own facts", z.fit(0, 0), 1);
+        CHECK.due("fit: by its own facts", z.fit(0, 1), 0);
     }
 
     private static void choose() {
@@ -157,6 +167,22 @@ public final class GrantsTest {
         CHECK.due("worth(1, 0)", x.worth(1, 0), -101);
         CHECK.due("worth(1, 1)", x.worth(1, 1), 12);
         CHECK.due("choose: WORTHS below 0", x.choose(0), 1);
+        least();
+    }
+
+    /** WORTH of 1 is worth a SUM, WORTH of 1/2 is cut to 0 and is not; all that is LEFT may go. */
+    private static void least() {
+        GiftOffice x = office(100);
+        Check.rule(x, "may 1; pass 1; late 0;");
+        marked(x, 0, 100, 1);
+        CHECK.due("choose: a WORTH of 1, all that is LEFT", x.choose(0), 1);
+        marked(x, 0, 100, 0);
+        CHECK.due("worth(0, 1)", x.worth(0, 1), 2);
+        CHECK.due("choose: WORTHS of 1/2", x.choose(0), 0);
+        GiftOffice y = office(99);
+        Check.rule(y, "may 1; pass 1; late 0;");
+        marked(y, 0, 100, 1);
+        CHECK.due("choose: more than LEFT", y.choose(0), 0);
     }
 
     private static void chooseOfMany() {
@@ -318,6 +344,12 @@ public final class GrantsTest {
         CHECK.due("proof: a day late", x.proof(0, 14), 2);
         CHECK.due("proof: none to be paid", x.proof(0, 0), -3);
         CHECK.due("told(0, 10)", x.told(0, 10), 4);
+        GiftOffice y = office(1000);
+        marked(y, 0, 1, 60);
+        y.grant(0, 0, 2, 1, 10);
+        CHECK.due("proof: a PART of 0", y.proof(0, 0), 0);
+        CHECK.due("due: a PART of 1", y.due(0, 0), 1);
+        CHECK.due("stop: 1 goes back", y.stop(0), 1);
     }
 
     private static void stops() {

@@ -1,6 +1,6 @@
 /** Runs of calls, each answer of GiftOffice held against that of Model. */
 public final class ModelTest {
-    private static final int RUNS = 3000, LENGTH = 300, TEXTS = 60000;
+    private static final int RUNS = 3000, LENGTH = 300, TEXTS = 60000, CROWDS = 600;
     private static final Check CHECK = new Check();
     private static final int[] ARGUMENTS = new int[6];
     /** How often each call is made, in a run that has all it needs. */
@@ -11,6 +11,10 @@ public final class ModelTest {
     public static void main(String[] args) {
         for (int text = 0; text < TEXTS; text++) {
             text(new Dice(text + 1));
+        }
+        for (int crowd = 0; crowd < CROWDS; crowd++) {
+            chosen(new Dice(31L * (crowd + 1)));
+            placed(new Dice(37L * (crowd + 1)));
         }
         for (int run = 0; run < RUNS; run++) {
             run(run, new Dice(1000003L * (run + 1)));
@@ -77,6 +81,54 @@ public final class ModelTest {
                     Calls.made(x, call, ARGUMENTS, bytes), due);
         }
         all(run, x, y);
+    }
+
+    /** Many ASKINGS that are FIT, of SUMS and MARKS that are often alike. */
+    private static void chosen(Dice dice) {
+        GiftOffice x = new GiftOffice();
+        Model y = new Model();
+        feed(x, y, "may 1; pass 1; late 0;");
+        same(x, y, "text", "text");
+        same(x, y, "force", "force", 1);
+        same(x, y, "fund", "fund", 63);
+        int sums = dice.from(1, 9);
+        int marks = dice.from(1, 12);
+        same(x, y, "give", "give", 0, dice.from(1, 10 * sums));
+        for (int r = 0; r < 8; r++) {
+            same(x, y, "reader", "reader", 0, 0, dice.from(1, 6));
+        }
+        for (int i = 0; i < 14; i++) {
+            same(x, y, "ask", "ask", dice.oneIn(5) ? 0 : 1, 1, 0, 0, dice.from(1, sums), 0);
+        }
+        same(x, y, "deal", "deal");
+        for (int i = 0; i < 14; i++) {
+            for (int r = 0; r < 8; r++) {
+                same(x, y, "mark", "mark", r, i, dice.from(1, marks) * (100 / marks));
+            }
+        }
+        for (int i = 0; i < 6; i++) {
+            same(x, y, "choose", "choose", 0);
+            same(x, y, "grant", "grant", 0, dice.from(0, 13), 1, 1, 0);
+            same(x, y, "give", "give", 0, dice.from(1, sums));
+        }
+    }
+
+    /** Many BARS and little LOADS. */
+    private static void placed(Dice dice) {
+        GiftOffice x = new GiftOffice();
+        Model y = new Model();
+        int most = dice.from(1, 6);
+        for (int r = dice.from(1, 8); r > 0; r--) {
+            same(x, y, "reader", "reader", 0, 0, dice.from(1, most));
+        }
+        for (int i = dice.from(1, 14); i > 0; i--) {
+            same(x, y, "ask", "ask", dice.from(0, 5), 1, 1, 0, 1, 0);
+        }
+        same(x, y, "deal", "deal");
+        for (int i = dice.from(0, 110); i > 0; i--) {
+            same(x, y, "bar", "bar", dice.from(0, 7), dice.from(0, 13));
+            same(x, y, "places", "places");
+        }
     }
 
     /** A mild rule, some funds, readers and askings, so that later calls find something. */

@@ -129,6 +129,14 @@ public final class ReadersTest {
         }
         CHECK.due("places: all NEEDS", y.places(), 42);
         chain();
+        GiftOffice z = new GiftOffice();
+        z.reader(0, 0, 6);
+        z.ask(0, 0, 0, 0, 1, 0);
+        CHECK.due("places: the only one is BARRED", z.places(), 0);
+        z.ask(3, 1, 0, 0, 1, 0);
+        CHECK.due("places: from a JOINT too", z.places(), 0);
+        z.ask(0, 1, 0, 0, 1, 0);
+        CHECK.due("places: no pair twice", z.places(), 1);
     }
 
     /** Each READER but the last can be had only by moving all pairs ahead of it by one. */
@@ -176,6 +184,16 @@ public final class ReadersTest {
         CHECK.due("count(5): BARRED later", x.count(5), 3);
         CHECK.due("mark: BARRED later", x.mark(0, 0, 5), -3);
         CHECK.due("mark: what counts", x.mark(2, 0, 71), 2);
+        GiftOffice y = new GiftOffice();
+        for (int r = 0; r < 8; r++) {
+            y.reader(r == 7 ? 1 : 0, 0, 6);
+        }
+        y.ask(1, 9, 0, 0, 1, 0);
+        y.deal();
+        CHECK.due("mark: the last READER", y.mark(7, 0, 33), 1);
+        CHECK.due("worth(0, 0)", y.worth(0, 0), 33);
+        CHECK.due("readerTold(7, 4)", y.readerTold(7, 4), 1);
+        CHECK.due("readerTold(7, 3)", y.readerTold(7, 3), 1);
     }
 
     private static void marksRefused() {

@@ -7,6 +7,7 @@ public final class TextsTest {
         texts();
         faults();
         depths();
+        afterFaults();
         values();
         facts();
         rule();
@@ -89,6 +90,9 @@ public final class TextsTest {
         fault("^May 1 ;");
         fault("^mayor 1 ;");
         fault("may ^sums ;");
+        fault("may ^sumz ;");
+        fault("may ^asum ;");
+        fault("may ^zsum ;");
         fault("may ^su ;");
         fault("may ^sumday ;");
         fault("may ^x ;");
@@ -119,6 +123,10 @@ public final class TextsTest {
         fault("may - ^;");
         fault("may 1 ^may 2 ;");
         fault("may ^or ;");
+        fault("may ^may ;");
+        fault("may ^pass 1 ;");
+        fault("may ^late ;");
+        fault("may ^and ;");
         fault("may 1 * 2 ^( 3 ) ;");
         fault("may 1 ^, 2 ;");
         fault("may 1 ^\u0000 ;");
@@ -155,6 +163,22 @@ public final class TextsTest {
         good("(1)+(2)*(3)-(4)+-5+-6+-7+-8");
         good("not 1 and not 2 and not 3 and not 4 and not 5 and not 6");
         good("-1*-2*-3*-4*-5*-6*-(1)");
+    }
+
+    /** A text that had a FAULT leaves nothing behind, wherever it was. */
+    private static void afterFaults() {
+        GiftOffice x = new GiftOffice();
+        for (int i = 0; i < 20; i++) {
+            CHECK.due("open at the FAULT", Check.text(x, "may (((((1+1+1+1+1+1+1+1+1+1+1+1 ;"), -133);
+            CHECK.due("nearly a text", Check.text(x, "may 7; pass 8; late 9"), -121);
+        }
+        CHECK.due("text", Check.text(x, "may (((((1))))); pass 2 + 3; late 4 * not 0;"), -138);
+        CHECK.due("text", Check.text(x, "may (((((1))))); pass 2 + 3; late 4 * 2;"), 1);
+        x.force(1);
+        x.ask(0, 0, 0, 0, 9, 9);
+        CHECK.due("may", x.says(0, 0, 0), 1);
+        CHECK.due("pass", x.says(0, 1, 0), 5);
+        CHECK.due("late", x.says(0, 2, 0), 8);
     }
 
     /** What an E comes to as each of the three parts. */
@@ -278,10 +302,22 @@ public final class TextsTest {
         CHECK.due("says(1, 2, 0)", x.says(1, 2, 0), -14);
     }
 
+    private static void ofEachItsOwn() {
+        GiftOffice x = new GiftOffice();
+        Check.rule(x, "may 1; pass kind * 100 + sum * 10 + theme; late day;");
+        x.ask(1, 0, 0, 2, 3, 4);
+        x.ask(2, 0, 0, 3, 4, 5);
+        CHECK.due("the first", x.says(0, 1, 0), 132);
+        CHECK.due("the first", x.says(0, 2, 0), 4);
+        CHECK.due("the second", x.says(1, 1, 0), 243);
+        CHECK.due("the second", x.says(1, 2, 0), 5);
+    }
+
     private static void rule() {
         GiftOffice x = new GiftOffice();
         x.ask(0, 0, 0, 0, 4999, 0);
         CHECK.due("TEXT 0: may", x.says(0, 0, 0), 1);
+        ofEachItsOwn();
         CHECK.due("TEXT 0: pass", x.says(0, 1, 0), 0);
         CHECK.due("TEXT 0: late", x.says(0, 2, 12), 12);
         Check.text(x, "may sum = 3; pass 1; late 77;");
