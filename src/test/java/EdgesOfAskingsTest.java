@@ -87,6 +87,12 @@ public final class EdgesOfAskingsTest {
         for (String may : new String[] {"1", "-1", "9999", "not 0", "kind", "sum", "theme", "day"}) {
             NEW.then("rule:may " + may + ";pass 0;late 0;").due("ask 1 2 0 2 4 5", 0);
         }
+        // of it alone: one that came ahead has WORTH, MARKS and DAYS behind
+        Story ahead = NEW.then("rule:may not day + mark + readers + behind;pass 1;late behind;", "reader 0 0 6",
+                "ask 1 9 0 0 1 0", "deal", "mark 0 0 77", "says 0 2 9");
+        ahead.then("says 0 1 0").refuses("ask 1 9 0 0 1 1", STATE);
+        ahead.then("says 0 2 9").refuses("ask 1 9 0 0 1 1", STATE);
+        ahead.then("says 0 2 9").due("ask 1 9 0 0 1 0", 1);
         // a TEXT that is not THE RULE does not matter
         NEW.then("text:may 0;pass 1;late 1;").due("ask 0 0 0 0 4999 0", 0);
         NEW.then("text:may 1;pass 1;late 1;").refuses("ask 0 0 0 0 5000 0", STATE);
@@ -134,7 +140,13 @@ public final class EdgesOfAskingsTest {
         full.due("bar 0 13", 1);
         full.due("places", 13 + 3);
         full.then("deal").due("told 13 6", 3);
-        full.refuses("told 14 0", BAD);
+        for (String call : new String[] {"told 14 0", "bar 0 14", "barred 0 14", "mark 0 14 5", "proof 14 0", "due 14 0",
+            "stop 14", "back 14 1"}) {
+            full.refuses(call, BAD);
+        }
+        full.refuses("says 14 0 0", Story.NO);
+        full.refuses("worth 14 0", Story.NO);
+        full.refuses("taken 14 0", Story.NOTHING);
         full.refuses("ask 1 0 0 0 1 0", FULL);
     }
 

@@ -96,6 +96,12 @@ public final class EdgesOfFundsTest {
         five.due("count 0", 5);
         five.due("fundTold 4 0", 16);
         five.due("give 4 9", 9);
+        five.due("choose 4", 0);
+        five.refuses("fundTold 5 0", BAD);
+        five.refuses("give 5 9", BAD);
+        five.refuses("choose 5", BAD);
+        five.then("ask 1 9 0 0 1 0").refuses("fit 5 0", BAD);
+        five.then("ask 1 9 0 0 1 0").refuses("grant 5 0 1 1 0", BAD);
     }
 
     /** 3: n COINS (1 .. 1000000); BAD. */
@@ -223,7 +229,13 @@ public final class EdgesOfFundsTest {
         Story dealt = eight.then("ask 1 0 0 5 9 0", "deal");
         dealt.due("told 0 7", 128);
         dealt.due("mark 7 0 100", 1);
+        dealt.then("mark 7 0 100").due("worth 0 0", 100);
+        dealt.then("mark 7 0 100").due("readerTold 7 4", 1);
         dealt.due("bar 7 0", 1);
+        dealt.refuses("readerTold 8 0", BAD);
+        dealt.refuses("bar 8 0", BAD);
+        dealt.refuses("barred 8 0", BAD);
+        dealt.refuses("mark 8 0 5", BAD);
     }
 
     /** 6: BAD. */

@@ -366,6 +366,13 @@ public final class EdgesOfGrammarTest {
             one.due("says 0 1 " + behind, 0);
             one.due("says 0 2 " + behind, 2 * behind);
         }
+        // what is said of one is not said of another
+        Story two = NEW.then("rule:may 1;pass kind*100+sum*10+theme;late day*100+behind;", "ask 1 0 0 2 3 4",
+                "ask 2 0 0 3 4 5");
+        two.due("says 0 1 0", 132);
+        two.due("says 1 1 0", 243);
+        two.then("says 1 2 9").due("says 0 2 0", 400);
+        two.then("says 0 2 9").due("says 1 2 1", 501);
         // what was behind once is not behind in a later call
         Story fits = NEW.then("rule:may 1;pass 1-behind;late 0;", "fund 1", "give 0 9", "reader 1 0 1",
                 "ask 1 9 0 0 9 0", "deal", "mark 0 0 5", "says 0 2 999");

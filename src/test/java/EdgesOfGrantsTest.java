@@ -15,6 +15,7 @@ public final class EdgesOfGrantsTest {
         chooseNothing();
         chooseByLeft();
         chooseOfLike();
+        chooseOfFourteen();
         chooseCutsEach();
         chooseNothingOfNoWorth();
         grantNumbers();
@@ -191,9 +192,35 @@ public final class EdgesOfGrantsTest {
         four(30, new int[] {30, 10, 20, 31}, new int[] {30, 10, 20, 90}).due("choose 0", 1);
         four(30, new int[] {10, 20, 30, 31}, new int[] {10, 20, 30, 90}).due("choose 0", 3);
         four(30, new int[] {20, 30, 10, 31}, new int[] {20, 30, 10, 90}).due("choose 0", 2);
+        // asked again, after one that had more, or less
+        four(30, new int[] {10, 20, 30, 31}, new int[] {10, 20, 30, 90}).then("choose 0").due("choose 0", 3);
+        four(30, new int[] {10, 20, 30, 31}, new int[] {10, 20, 30, 90}).then("choose 0", "give 0 1").due("choose 0", 8);
+        four(91, new int[] {10, 20, 30, 31}, new int[] {10, 20, 30, 90}).then("choose 0", "grant 0 3 1 1 0",
+                "choose 0", "bar 0 2").due("choose 0", 3);
+        four(91, new int[] {10, 20, 30, 31}, new int[] {10, 20, 30, 90}).then("choose 0", "fund 0").due("choose 1", 0);
         // more WORTH goes ahead of SUMS that are less
         four(100, new int[] {1, 100, 1, 100}, new int[] {20, 42, 21, 41}).due("choose 0", 2);
         four(100, new int[] {1, 100, 1, 100}, new int[] {20, 41, 21, 41}).due("choose 0", 5);
+    }
+
+    /** 4: of all sets, with all fourteen in them. */
+    private static void chooseOfFourteen() {
+        Story all = NEW.then("rule:may 1;pass 1;late 0;", "fund 1", "give 0 140");
+        for (int r = 0; r < 7; r++) {
+            all = all.then("reader 0 0 2");
+        }
+        all = all.times(14, "ask 1 9 0 0 10 0").then("deal");
+        for (int i = 0; i < 14; i++) {
+            all = all.then("mark " + i % 7 + " " + i + " 50");
+        }
+        all.due("choose 0", (1 << 14) - 1);
+        all.then("choose 0", "grant 0 13 1 1 0").due("choose 0", (1 << 13) - 1);
+        all.then("fund 1", "give 1 139").due("choose 1", (1 << 13) - 1);
+        all.then("fund 1", "give 1 70").due("choose 1", (1 << 7) - 1);
+        all.then("fund 1", "give 1 10").due("choose 1", 1);
+        all.then("fund 1", "give 1 9").due("choose 1", 0);
+        all.then("bar 0 0", "fund 1", "give 1 139").due("choose 1", (1 << 14) - 2);
+        all.then("grant 0 13 4 1 0").due("told 13 12", 10);
     }
 
     /** 4: the sum of all WORTHS, each cut towards 0. */
@@ -326,6 +353,16 @@ public final class EdgesOfGrantsTest {
                     }
                 }
                 one = one.then("proof 0 " + Math.min(999, due));
+            }
+        }
+        // ahead of time it is 0 DAYS behind, not less
+        String[][] late = {{"behind+5", "95"}, {"5-behind", "95"}, {"-behind", "100"}, {"behind*behind", "100"},
+            {"behind<0", "100"}, {"behind=0", "99"}};
+        for (String[] one : late) {
+            Story early = fitting("may 1;pass 1;late " + one[0] + ";", 100).then("grant 0 0 1 10 500");
+            for (int day : new int[] {0, 1, 498, 499, 500}) {
+                early.due("due 0 " + day, Integer.parseInt(one[1]));
+                early.due("proof 0 " + day, Integer.parseInt(one[1]));
             }
         }
         // a late PROOF does not move what is DUE later, nor does one ahead of time

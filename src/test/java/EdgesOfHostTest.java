@@ -130,6 +130,9 @@ public final class EdgesOfHostTest {
                 anew.then("cell 0 5 9", "asks 0 " + again + " 1 1").due("told 0 3", 0);
             }
         }
+        Story first = NEW.then("sheet 0 2 6", "cell 0 0 3", "cell 0 5 9", "sheet 0 2 6", "cell 0 4 7", "asks 0 2 0 1");
+        first.due("told 0 0", 0);
+        first.due("told 0 5", 0);
         // shorter, then longer
         sheet(0, 2, 40, 34, 1).then("sheet 0 2 6", "sheet 0 2 40").due("asks 0 2 34 1", 0);
     }

@@ -22,6 +22,7 @@ public final class EdgesOfReadersTest {
         placesOfNothing();
         placesByNeedAndLoad();
         placesByBars();
+        placesByMoving();
         markNumbers();
         markRefused();
         markInPlaceOfOne();
@@ -260,6 +261,33 @@ public final class EdgesOfReadersTest {
         two.then("bar 0 0", "bar 0 1").due("places", 1);
         two.then("bar 0 0", "bar 1 0").due("places", 1);
         two.then("bar 0 0", "bar 1 0", "bar 0 1", "bar 1 1").due("places", 0);
+    }
+
+    /** 3: the most pairs: each READER but the last can be had only by moving all pairs ahead of it by one. */
+    private static void placesByMoving() {
+        Story chain = NEW.times(8, "reader 0 0 1").times(8, "ask 1 1 0 0 1 0");
+        for (int i = 0; i < 8; i++) {
+            for (int r = 0; r < 8; r++) {
+                boolean open = i < 7 ? r == i || r == i + 1 : r == 0;
+                chain = open ? chain : chain.then("bar " + r + " " + i);
+            }
+        }
+        chain.due("places", 8);
+        chain.then("places").due("places", 8);
+        chain.then("places", "bar 7 6").due("places", 7);
+        chain.then("places", "ask 2 1 0 0 1 0").due("places", 8);
+        // one that was moved away is not moved again for another
+        Story three = NEW.times(4, "reader 0 0 1").times(3, "ask 1 1 0 0 1 0").then("bar 0 0", "bar 0 1", "bar 0 2",
+                "bar 2 1", "bar 3 1", "bar 2 2", "bar 3 2");
+        three.due("places", 2);
+        NEW.times(3, "reader 0 0 1").times(3, "ask 1 1 0 0 1 0").then("bar 1 1", "bar 2 1", "bar 1 2", "bar 2 2")
+                .due("places", 2);
+        // asked again, it is what it was; with more there, it is more
+        Story two = NEW.then("places", "reader 0 0 2", "places", "ask 1 1 0 0 1 0", "places");
+        two.due("places", 1);
+        two.then("ask 1 1 0 0 1 0").due("places", 2);
+        two.then("ask 1 1 0 0 1 0", "ask 1 1 0 0 1 0").due("places", 2);
+        two.then("ask 1 1 0 0 1 0", "ask 1 1 0 0 1 0", "places", "bar 0 0", "bar 0 1").due("places", 1);
     }
 
     private static Story dealt() {

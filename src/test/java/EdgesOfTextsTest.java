@@ -97,6 +97,12 @@ public final class EdgesOfTextsTest {
         NEW.then("?text:may").due("count 3", 1);
         NEW.faults(GOOD + "may", 20);
         NEW.then("rule:" + GOOD, "ask 1 1 1 1 1 1").faults("may 0;pass 0;late 0", 19);
+        // nor does it leave what was open, or what was read
+        NEW.times(9, "?text:may (((((1;").due("text:may (((((1)))));pass -----2;late not not not not not 3;", 1);
+        Story often = NEW.times(9, "?text:may ((((1" + "+1".repeat(60) + ";");
+        often.due("text:may 1" + "+1".repeat(60) + ";pass 2;late 3;", 1);
+        often.then("rule:may 1" + "+1".repeat(60) + ";pass 2;late 3;", "ask 0 0 0 0 1 0").due("says 0 0 0", 61);
+        often.then("rule:may 1" + "+1".repeat(60) + ";pass 2;late 3;", "ask 0 0 0 0 1 0").due("says 0 2 0", 3);
         // a FAULT takes no number, however often
         NEW.times(30, "?text:may (((((1;").due("text:" + GOOD, 1);
     }
@@ -239,6 +245,11 @@ public final class EdgesOfTextsTest {
                     NEW.faults(other + " 1;", 0);
                     NEW.faults(GOOD + other, 20);
                 }
+            }
+            for (char c = 'a'; c <= 'z'; c++) {
+                NEW.due("text:may " + word + c, -104);
+                NEW.due("text:may " + c + word, -104);
+                NEW.due("text:may 1 " + c + " " + word, -106);
             }
             // with one letter that is not a .. z the rest is none, or the letter begins none
             NEW.faults("may " + Character.toUpperCase(word.charAt(0)) + word.substring(1) + ";", 4);
